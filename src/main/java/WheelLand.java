@@ -325,7 +325,7 @@ public final class WheelLand {
             }
         }
         for (int k = 0; k < handwork.lots.size(); k++) {
-            offerLot(k);
+            offerLot(k, handwork.lots.get(k));
         }
         handwork.find();
         switch (what) {
@@ -760,8 +760,7 @@ public final class WheelLand {
      * No loom's work bars another lot from it, so each lot by itself takes the most hanks and the
      * fewest days; only weeks and the first way are left to search for.
      */
-    private void offerLot(int place) {
-        Lot yarn = handwork.lots.get(place);
+    private void offerLot(int place, Lot yarn) {
         int hanks = yarn.left - yarn.left % 2;
         int fewest = NONE;
         int choices = 0;
