@@ -13,6 +13,8 @@ public final class GiftsEdgesTest {
         asTheWeekEnds();
         allHouses();
         threeHundred();
+        emptyOfThreeHundred();
+        lastOnes();
         bestOf();
         hungry();
         hungryPrices();
@@ -244,6 +246,42 @@ public final class GiftsEdgesTest {
         due(x, 9, 1, 15 * 14 + 15, 5);
         x.go(1);
         due(x, 9, 0, 0, 0);
+    }
+
+    private static void emptyOfThreeHundred() {
+        Checks.sentence("With 0 HANKS, or 300 LOTS, nothing is spun.");
+        for (int idle : new int[] {0, 2}) {
+            WheelLand x = new WheelLand();
+            x.village(40404040, 5, 9999);
+            x.village(idle * 1010101, 5, 9999);
+            x.house(1, 1511);
+            for (int k = 0; k < 19 - idle / 2; k++) {
+                x.house(0, 1111);
+            }
+            x.go(15);
+            Checks.due("LOTS", x.count(3), 285);
+            // one HANK is a LOT, none is not
+            due(x, 0, 0, idle == 0 ? 15 * 14 : 1 + 14 * 14, 0);
+        }
+    }
+
+    private static void lastOnes() {
+        Checks.sentence("a HOUSE, a kind: 0 a WHEEL more, 1 SKILL one more, 2 COTTON 5 pounds more for its VILLAGE");
+        WheelLand x = new WheelLand();
+        for (int k = 0; k < 8; k++) {
+            x.village(40404040, 5, 2);
+        }
+        for (int k = 0; k < 20; k++) {
+            x.house(k == 19 ? 7 : k % 7, k == 19 ? 1101 : 101);
+        }
+        due(x, 9, 0, 14, 0);
+        x.gift(1, 19, 2);
+        x.gift(1, 19, 0);
+        x.gift(1, 19, 1);
+        // 40 * 12 / 30 = 16, 80 * 11 / 30 = 29, 80 * 12 / 30 = 32 of 7 pounds
+        due(x, 1, 2, 20, 1);
+        due(x, 2, 3, 29, 2);
+        due(x, 3, 7, 32, 3);
     }
 
     private static void bestOf() {

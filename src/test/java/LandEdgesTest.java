@@ -14,6 +14,7 @@ public final class LandEdgesTest {
         roadsAnew();
         farthest();
         manyHouses();
+        allParts();
         wheels();
         skills();
         castes();
@@ -258,6 +259,19 @@ public final class LandEdgesTest {
             Checks.due("house(0, " + (fine + n * ones) + ")", x.house(0, fine + n * ones), can ? 0 : -1);
             Checks.due("has(0, " + what + ")", x.has(0, what), can ? n : VOID);
             Checks.due("HOUSES", x.count(2), can ? 1 : 0);
+        }
+    }
+
+    private static void allParts() {
+        Checks.sentence("What is WHEELS * 1000 + SKILL * 100 + CASTE * 10 + HEADS.");
+        for (int what : new int[] {5959, 101, 5101, 959, 5151, 5901, 4959, 1234, 3549}) {
+            WheelLand x = villages(1);
+            Checks.due("house(0, " + what + ")", x.house(0, what), 0);
+            int rest = what;
+            for (int part = 4; part >= 1; part--) {
+                Checks.due("has(0, " + part + ") of " + what, x.has(0, part), rest % 10);
+                rest /= 10;
+            }
         }
     }
 

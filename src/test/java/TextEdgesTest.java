@@ -15,6 +15,8 @@ public final class TextEdgesTest {
         numbers();
         eightDeep();
         closedAgain();
+        bindings();
+        holding();
         brought();
         divided();
         firstFault();
@@ -191,6 +193,11 @@ public final class TextEdgesTest {
         fault("duty 1=1;", 6);
         fault("ow 1;", 0);
         fault("owe 1; pay 1;", 7);
+        for (String word : new String[] {"or", "and", "not", "price", "week"}) {
+            fault(word + " 1;", 0);
+            fault(word + " 1=1;", 0);
+            fault("stamp 1=1; " + word + " 1=1;", 11);
+        }
     }
 
     private static void clausesOnce() {
@@ -269,6 +276,35 @@ public final class TextEdgesTest {
         x.house(0, 1111);
         Checks.enforce(x, "wage " + sum + ";", 0);
         return x.keeps(0, 1);
+    }
+
+    private static void bindings() {
+        Checks.sentence("E is T, any number of + T or - T; T is F, any number of * F or / F");
+        String[] sums = {
+            "2+3*4=14", "(2+3)*4=20", "20-5-3=12", "20-(5-3)=18", "2*3+4=10", "100/5/2=10", "100/(5/2)=50", "12/4*3=9",
+            "12*4/3=16", "1+2+3+4=10", "9-2*3=3", "(9-2)*3=21", "8/2+2=6", "8/(2+2)=2", "7-3+2=6", "((7))=7"};
+        for (String sum : sums) {
+            String[] sides = sum.split("=");
+            Checks.due(sum, value(sides[0]), Integer.parseInt(sides[1]));
+        }
+    }
+
+    private static void holding() {
+        Checks.sentence("C is A, any number of or A; A is B, any number of and B; B is not B, [ C ], E < E, E > E or E = E.");
+        String[] hold = {
+            "2<3", "3>2", "3=3", "0-1<0", "0>0-1", "not 2=3", "not 3<2", "not 2>2", "not not 2=2", "2=2 or 2=3",
+            "2=3 or 2=2", "2=2 and 3=3", "2=2 or 2=2 and 2=3", "2=3 and 2=2 or 2=2", "not [2=3 and 2=2]",
+            "not 2=2 or 2=2", "1+1=2", "2=1+1", "2=3 or 2=4 or 2=2", "2=2 and [2=3 or 2=2]", "not [2=3 or 3=2]"};
+        for (String text : hold) {
+            Checks.due("bar by " + text, land("may " + text + ";").bar(1, 0, 4), 0);
+        }
+        String[] fail = {
+            "3<3", "4<3", "3>3", "2>3", "3=4", "0<0-1", "not 2=2", "not 7=7", "not 2<3", "not not not 2=2",
+            "2=3 or 3=2", "2=2 and 2=3", "2=3 and 2=2", "2=3 and 3=2", "[2=2 or 2=2] and 2=3", "2=3 and [2=2 or 2=2]",
+            "not 2=3 and 2=3", "not [2=2 or 2=3]", "not [2=2 and 3=3]", "2=2 and 3=3 and 4=5", "1+1=3"};
+        for (String text : fail) {
+            Checks.due("bar by " + text, land("may " + text + ";").bar(1, 0, 4), 5);
+        }
     }
 
     private static void brought() {

@@ -220,6 +220,9 @@ public final class WeavingEdgesTest {
         Checks.due("BAR of 4 by 3", y.bar(0, 0, 4), 7);
         y.weave(0, 0, 2);
         Checks.due("BAR of 2 by 1", y.bar(0, 0, 2), 7);
+        y.go(1);
+        Checks.due("woven in this WEEK by the first HOUSE", y.has(0, 10), 0);
+        Checks.due("BAR of 2 in the WEEK behind", y.bar(0, 0, 2), 0);
     }
 
     private static void yards() {
